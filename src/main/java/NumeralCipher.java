@@ -474,27 +474,22 @@ public final class NumeralCipher {
         private int roundPlace;
         private int addendWords;
 
-        @Override
         int rounds() {
             return ROUNDS;
         }
 
-        @Override
         int firstHalf(int n) {
             return n / 2;
         }
 
-        @Override
         boolean lowestFirst() {
             return false;
         }
 
-        @Override
         boolean takes(Row row, Bytes tweak, Natural scratch) {
             return true;
         }
 
-        @Override
         void begin(Row row, Bytes tweak, Natural scratch) {
             int u = firstHalf(row.size);
             int width = row.widthOf(row.size - u, scratch);
@@ -512,7 +507,6 @@ public final class NumeralCipher {
             cipher.encipher(start);
         }
 
-        @Override
         void makeAddend(int round, Natural number) {
             chainInput(round, number);
             number.clear();
@@ -561,28 +555,23 @@ public final class NumeralCipher {
         private int left;
         private int right;
 
-        @Override
         int rounds() {
             return ROUNDS;
         }
 
-        @Override
         int firstHalf(int n) {
             return n - n / 2;
         }
 
-        @Override
         boolean lowestFirst() {
             return true;
         }
 
         /* Radix to the u is 2 to the 96 at most just when the highest number of u numerals has 12 bytes at most. */
-        @Override
         boolean takes(Row row, Bytes tweak, Natural scratch) {
             return tweak.size == TWEAK_BYTES && row.widthOf(firstHalf(row.size), scratch) <= NUMBER_BYTES;
         }
 
-        @Override
         void begin(Row row, Bytes tweak, Natural scratch) {
             int head = tweak.wordAt(0);
             left = head & 0xfffffff0;
@@ -590,7 +579,6 @@ public final class NumeralCipher {
         }
 
         /* Turning round the bytes of a block turns round the words, which a number has lowest first already. */
-        @Override
         void makeAddend(int round, Natural number) {
             for (int k = 0; k < NUMBER_WORDS; k++) {
                 turned[k] = BlockCipher.bytesTurned(number.wordAt(k));
