@@ -9,8 +9,10 @@ import javax.crypto.spec.SecretKeySpec;
 
 /** Runs of calls by chance (always the same ones), each answer compared with that of a plainer program. */
 public final class ModelRuns {
-    private static final int MIXED_RUNS = 400;
-    private static final int CALLS = 512;
+    private static final int MIXED_RUNS = 2000;
+    /* The document promises nothing about an object after its 512th call. */
+    private static final int MOST_CALLS = 512;
+    private static final int MOST_CALLS_OF_A_STATE = 5 + 65 + 65;
     private static final int[] RADICES = {2, 3, 8, 9, 10, 16, 26, 36, 99, 100, 255, 256, 257, 999, 1000, 4096, 65535, 65536};
 
     private static int wrong = 0;
@@ -20,6 +22,11 @@ public final class ModelRuns {
             mixedRun(run);
         }
         everyLength();
+        everyLengthOfTweak();
+        everyByteOfASecondWaysTweak();
+        widestHalvesByTheSecondWay();
+        shortestRows();
+        longestRows();
         System.out.println(wrong == 0 ? "all answers are as due" : wrong + " answers are not as due");
         if (wrong != 0) {
             System.exit(1);
@@ -302,25 +309,19 @@ public final class ModelRuns {
         }
     }
 
-    /** A run of single calls of all kinds, with wrong ones among them; now and then the whole state is compared. */
+    /** A run of single calls of all kinds, with wrong ones among them; then the whole state is compared. */
     private static void mixedRun(int run) {
         Random random = new Random(run);
         NumeralCipher x = new NumeralCipher();
         Model m = new Model();
+        int calls = run % (MOST_CALLS - MOST_CALLS_OF_A_STATE + 1);
         int turns = 0;
-        for (int call = 0; call < CALLS; call++) {
-            String what = "run " + run + ", call " + call;
+        for (int call = 0; call < calls && wrong <= 20; call++) {
             int kind = random.nextInt(40);
             if (kind >= 38 && turns++ > 30) {
                 kind = 0;
             }
-            oneCall(what, kind, random, x, m);
-            if (call % 16 == 0 || kind >= 20 && kind < 26) {
-                sameState(what, x, m);
-            }
-            if (wrong > 20) {
-                return;
-            }
+            oneCall("run " + run + ", call " + call, kind, random, x, m);
         }
         sameState("run " + run + ", at the end", x, m);
     }
@@ -381,24 +382,14 @@ public final class ModelRuns {
         }
     }
 
-    /** Every length of a row in every radix of the list, by both ways, forth and back, with highest numerals too. */
+    /** Every length of a row in every radix of the list, by both ways, forth and back. */
     private static void everyLength() {
         Random random = new Random(4711);
         for (int radix : RADICES) {
             for (int n = 0; n <= 64; n++) {
-                NumeralCipher x = new NumeralCipher();
-                Model m = new Model();
-                type(random, new int[] {16, 24, 32}[random.nextInt(3)], x, m);
-                same("key", () -> x.key(), () -> m.key());
-                type(random, random.nextBoolean() ? 7 : random.nextInt(33), x, m);
-                same("tweak", () -> x.tweak(), () -> m.tweak());
-                same("radix", () -> x.radix(radix), () -> m.radix(radix));
-                int sort = random.nextInt(3);
-                for (int k = 0; k < n; k++) {
-                    int v = sort == 0 ? 0 : sort == 1 ? radix - 1 : random.nextInt(radix);
-                    same("numeral", () -> x.numeral(v), () -> m.numeral(v));
-                }
-                everyTurn("radix " + radix + ", " + n + " numerals, tweak of " + m.tweak.length, x, m);
+                byte[] tweak = new byte[random.nextBoolean() ? 7 : random.nextInt(33)];
+                random.nextBytes(tweak);
+                oneRow("row", random.nextInt(9), tweak, radix, n);
             }
         }
     }
@@ -410,15 +401,97 @@ public final class ModelRuns {
         }
     }
 
-    private static void everyTurn(String what, NumeralCipher x, Model m) {
-        for (int k = 0; k < 4; k++) {
-            int way = k / 2;
-            boolean back = k % 2 == 0;
-            same(what + ", can " + way, () -> x.can(way) ? 1 : 0, () -> m.can(way) ? 1 : 0);
+    /** A row of lowest, of highest and of other numerals, by a key of each length. */
+    private static void edge(String what, byte[] tweak, int radix, int n) {
+        for (int sort = 0; sort < 9; sort++) {
+            oneRow(what, sort, tweak, radix, n);
+        }
+    }
+
+    private static void oneRow(String what, int sort, byte[] tweak, int radix, int n) {
+        for (int way = 0; way < 2; way++) {
+            int keyLength = 16 + 8 * (sort / 3);
+            Random random = new Random(31 * n + sort);
+            NumeralCipher x = new NumeralCipher();
+            Model m = new Model();
+            type(random, keyLength, x, m);
+            same("key", () -> x.key(), () -> m.key());
+            for (byte b : tweak) {
+                same("type", () -> x.type(b, 1), () -> m.type(b, 1));
+            }
+            same("tweak", () -> x.tweak(), () -> m.tweak());
+            same("radix", () -> x.radix(radix), () -> m.radix(radix));
+            for (int place = 0; place < n; place++) {
+                int v = sort % 3 == 0 ? 0 : sort % 3 == 1 ? radix - 1 : random.nextInt(radix);
+                same("numeral", () -> x.numeral(v), () -> m.numeral(v));
+            }
+            everyTurn(what + ", radix " + radix + ", " + n + " numerals, key of " + keyLength
+                + ", tweak of " + tweak.length, way, x, m);
+        }
+    }
+
+    private static byte[] bytes(int n, int each) {
+        byte[] answer = new byte[n];
+        Arrays.fill(answer, (byte) each);
+        return answer;
+    }
+
+    /** Way 0 puts 0 to 15 bytes of 0 between the tweak and the round, so every length of a tweak counts. */
+    private static void everyLengthOfTweak() {
+        for (int n = 0; n <= 32; n++) {
+            edge("tweak of " + n, bytes(n, 0xff), 10, 6);
+            edge("tweak of " + n, bytes(n, 0xa5), 256, 9);
+            edge("tweak of " + n, bytes(n, 0x01), 65536, 64);
+        }
+    }
+
+    /** Way 1 parts the tweak in the middle of its fourth byte. */
+    private static void everyByteOfASecondWaysTweak() {
+        for (int place = 0; place < 7; place++) {
+            for (int b : new int[] {0x01, 0x0f, 0x10, 0x80, 0xf0, 0xff}) {
+                byte[] tweak = new byte[7];
+                tweak[place] = (byte) b;
+                edge("tweak with byte " + place + " " + b, tweak, 10, 7);
+            }
+        }
+    }
+
+    /** Radix to the u is just 2 to the 96, or the most below it; and one numeral more. */
+    private static void widestHalvesByTheSecondWay() {
+        int[][] widest = {{2, 64}, {8, 64}, {9, 60}, {10, 56}, {16, 48}, {64, 32}, {256, 24}, {257, 22}, {4096, 16},
+            {65535, 12}, {65536, 12}};
+        for (int[] row : widest) {
+            edge("widest by way 1", bytes(7, 0xff), row[0], row[1]);
+            edge("widest by way 1, odd", bytes(7, 0xff), row[0], row[1] - 1);
+            if (row[1] < 64) {
+                edge("too wide by way 1", bytes(7, 0xff), row[0], row[1] + 1);
+            }
+        }
+    }
+
+    /** Radix to the n is just 1000000, or the least above it; and one numeral less. */
+    private static void shortestRows() {
+        int[][] shortest = {{2, 20}, {3, 13}, {10, 6}, {15, 6}, {16, 5}, {31, 5}, {32, 4}, {99, 4}, {100, 3}, {999, 3},
+            {1000, 2}, {65535, 2}, {65536, 2}};
+        for (int[] row : shortest) {
+            edge("shortest", bytes(7, 0x3c), row[0], row[1]);
+            edge("too short", bytes(7, 0x3c), row[0], row[1] - 1);
+        }
+    }
+
+    private static void longestRows() {
+        for (int radix : RADICES) {
+            edge("longest", bytes(0, 0), radix, 64);
+            edge("longest", bytes(32, 0xff), radix, 64);
+            edge("longest but one", bytes(32, 0xff), radix, 63);
+        }
+    }
+
+    private static void everyTurn(String what, int way, NumeralCipher x, Model m) {
+        same(what + ", can " + way, () -> x.can(way) ? 1 : 0, () -> m.can(way) ? 1 : 0);
+        for (boolean back : new boolean[] {false, true, true, false}) {
             same(what + ", turn " + way, () -> { x.turn(way, back); return 0; }, () -> m.turn(way, back));
             sameState(what + ", turned by " + way + (back ? " back" : ""), x, m);
-            same(what + ", turn " + way, () -> { x.turn(way, !back); return 0; }, () -> m.turn(way, !back));
-            sameState(what + ", turned again by " + way, x, m);
         }
     }
 }
