@@ -621,7 +621,7 @@ public final class BoundaryTests {
         due("all behind block() but the buffer", everything(x), everything(buffered(0).get()));
     }
 
-    /** NIST's known answers: 0s and highest bytes as block and as key, for each length of a key. */
+    /** Known answers of AES, which the JDK's gives too: 0s and highest bytes as block and as key. */
     private static void blockOfLowestAndHighestBytes() {
         dueBlock(0x00, 16, 0x00, "66e94bd4ef8a2c3b884cfa59ca342b2e");
         dueBlock(0x00, 24, 0x00, "aae06992acbf52a3e8f4a96ec9300bd7");
